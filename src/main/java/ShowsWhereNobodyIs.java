@@ -174,6 +174,7 @@ public final class ShowsWhereNobodyIs {
         }
         int before = now.hasWay(p, q) ? 1 : 0;
         now.setWay(p, q, is);
+        now.measure();
         return before;
     }
 
@@ -236,6 +237,7 @@ public final class ShowsWhereNobodyIs {
             refuse(BAD);
             return FAULT_BASE - reader.fault;
         }
+        draft.measure();
         now.become(draft);
         return statements;
     }
@@ -946,9 +948,10 @@ public final class ShowsWhereNobodyIs {
         // -- ways --
 
         boolean hasWay(int p, int q) {
-            return hasBit(ways[p], q);
+            return (ways[p] >> q & 1) != 0;
         }
 
+        /** Distances stay as they were until measure(): a text sets many ways at the price of one. */
         void setWay(int p, int q, boolean is) {
             if (is) {
                 ways[p] |= 1 << q;
@@ -957,7 +960,6 @@ public final class ShowsWhereNobodyIs {
                 ways[p] &= ~(1 << q);
                 ways[q] &= ~(1 << p);
             }
-            measure();
         }
 
         int countWays() {
@@ -973,7 +975,7 @@ public final class ShowsWhereNobodyIs {
         }
 
         // All twelve places are measured, so that more places later need no new measure.
-        private void measure() {
+        void measure() {
             for (int p = 0; p < MOST_PLACES; p++) {
                 measureFrom(p);
             }
@@ -1151,7 +1153,7 @@ public final class ShowsWhereNobodyIs {
                 case WALKER:
                     return walkRound(from);
                 case THIEF:
-                    return slipIn(from, dark);
+                    return hasBit(dark, walkRound(from)) ? walkRound(from) : from;
                 default:
                     return from;
             }
@@ -1187,11 +1189,6 @@ public final class ShowsWhereNobodyIs {
                 }
             }
             return from;
-        }
-
-        private int slipIn(int from, int dark) {
-            int to = walkRound(from);
-            return hasBit(dark, to) ? to : from;
         }
 
         private void endHour() {

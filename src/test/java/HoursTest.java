@@ -139,6 +139,8 @@ public final class HoursTest {
         due("nobody tells", x.untold(0, 0), 7);
         due("one of two at 0 tells", x.untold(16, 0), 6);
         due("all tell", x.untold(63, 0), 0);
+        due("the first tells", x.untold(1, 1), 10);
+        due("the last tells", x.untold(32, 0), 7);
         due("the dead tells nothing of shine", x.untold(8, 0), 7);
         due("the dead stands at 3 with others", x.untold(8, 2), 18);
         due("people that aren't there", x.untold(64, 0), -2);
@@ -299,6 +301,16 @@ public final class HoursTest {
         // is at 1 and 2 with all, at 0 and 2 without the sitter, at 1 alone without the one at 2
         ShowsWhereNobodyIs u = Check.townOf("way 0 1; person 1 0 1 1; person 4 0 0 0; person 1 0 2 2");
         due("others go as if he weren't there", u.without(1), 2);
+        // the others keep their own homes and aims: behind an hour of day 2 and 3 are in one place
+        ShowsWhereNobodyIs v = Check.townOf("way 0 1; way 2 3; person 1 0 5 5; person 0 0 0 1;"
+            + "person 0 0 2 3; person 1 0 3 3; hour 8");
+        due("first of those alone", v.without(1), 0);
+        v.put(0, 0, 1);
+        due("now two are joined at 1, two at 3", v.without(1), 0);
+        v.person(1, 0, 4, 4);
+        due("but one", v.without(1), 4);
+        v.tell(0, 20);
+        due("by night all are alone", v.without(1), 0);
     }
 
     private static void best() {

@@ -85,6 +85,13 @@ public final class KeptTest {
         due("nobody of that number", x.holds(2), -1);
         due("a row stays", x.element(3, 1), 99);
         due("shelves", x.status(8), 2);
+        x.person(1, 0, 0, 0);
+        x.show(0, 1);
+        x.show(7, 1);
+        x.back();
+        due("nobody of that number in the first", x.holds(0), -1);
+        due("nor in the last", x.holds(7), -1);
+        x.show(0, 0);
         x.person(5, 8, 1, 1);
         due("nobody comes back into a shelf", x.holds(1), -1);
         due("says", x.says(0, 0), 1);

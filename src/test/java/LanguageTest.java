@@ -8,7 +8,9 @@ import java.nio.file.Files;
 import java.nio.file.Path;
 import java.util.ArrayList;
 import java.util.List;
+import java.util.Map;
 import java.util.Set;
+import java.util.TreeMap;
 import java.util.TreeSet;
 import java.util.regex.Matcher;
 import java.util.regex.Pattern;
@@ -30,6 +32,7 @@ public final class LanguageTest {
         words(withoutComments(source));
         loops(withoutComments(source));
         lengths(source);
+        depth(withoutComments(source));
         CHECK.end();
     }
 
@@ -158,5 +161,53 @@ public final class LanguageTest {
             }
         }
         is("methods were seen to their end", start < 0);
+    }
+
+    /** Rules 8 and 11: no recursion here, and calls at most eight deep, by the methods' names. */
+    private static void depth(String code) {
+        Map<String, Set<String>> calls = new TreeMap<>();
+        Matcher m = Pattern.compile("(?ms)^( {4}| {8})(?:\\w[\\w\\[\\]]* )*(\\w+)\\([^;{}()]*\\) \\{$(.*?)^\\1\\}$")
+            .matcher(code);
+        while (m.find()) {
+            calls.computeIfAbsent(m.group(2), name -> new TreeSet<>()).addAll(called(m.group(3)));
+        }
+        is("all methods were seen: " + calls.size() + " of " + names().size(),
+            calls.keySet().containsAll(names()));
+        for (String name : calls.keySet()) {
+            is(name + " goes at most eight deep", deepest(name, calls, 0) <= 8);
+        }
+    }
+
+    private static Set<String> names() {
+        Set<String> names = new TreeSet<>();
+        List<Class<?>> all = new ArrayList<>(List.of(ShowsWhereNobodyIs.class.getDeclaredClasses()));
+        all.add(ShowsWhereNobodyIs.class);
+        for (Class<?> each : all) {
+            for (Method method : each.getDeclaredMethods()) {
+                names.add(method.getName());
+            }
+        }
+        return names;
+    }
+
+    private static Set<String> called(String body) {
+        Set<String> names = new TreeSet<>();
+        Matcher m = Pattern.compile("\\b(\\w+)\\(").matcher(body);
+        while (m.find()) {
+            names.add(m.group(1));
+        }
+        return names;
+    }
+
+    private static int deepest(String name, Map<String, Set<String>> calls, int above) {
+        int deepest = above + 1;
+        if (above < 20) {
+            for (String each : calls.get(name)) {
+                if (calls.containsKey(each)) {
+                    deepest = Math.max(deepest, deepest(each, calls, above + 1));
+                }
+            }
+        }
+        return deepest;
     }
 }

@@ -37,9 +37,10 @@ public final class ShelvesTest {
         }
         due("row(7, 0, 0)", x.row(7, 0, 0), 1);
         due("set in no elements", x.set(7, 0, 1), -2);
+        x.set(0, 0, 1);
         x.set(0, 39, 1);
         due("a new row", x.row(0, 4, 40), 1);
-        due("is not so at first", x.element(0, 39), 0);
+        due("is not so at first", x.element(0, 0) + x.element(0, 39), 0);
         due("row(8, ..)", x.row(8, 0, 1), -2);
         due("row(-1, ..)", x.row(-1, 0, 1), -2);
         due("row sort 5", x.row(0, 5, 1), -2);
@@ -105,6 +106,8 @@ public final class ShelvesTest {
         x = counted();
         due("copy downward in itself", x.copy(0, 0, 1, 0, 4), 4);
         dueRow(x, 0, 2, 3, 4, 5, 5);
+        due("copy all", x.copy(1, 0, 0, 2, 3), 3);
+        dueRow(x, 0, 2, 3, 0, 0, 0);
         due("copy none", x.copy(0, 1, 0, 0, 0), 0);
         due("copy none at the end", x.copy(0, 1, 5, 3, 0), 0);
         due("nothing refused", x.status(12), 0);
@@ -148,6 +151,10 @@ public final class ShelvesTest {
         due("none", x.element(0, 5), 0);
         due("none", x.element(0, -1), 0);
         due("a person", x.element(2, 0), 0);
+        x.show(0, 0);
+        due("a person where a row was", x.element(0, 4), 0);
+        x.row(0, 2, 5);
+        x.set(0, 4, 5);
         due("NOTHING", x.element(7, 0), 0);
         due("no shelf", x.element(8, 0), 0);
         due("no shelf", x.element(-1, 0), 0);
@@ -211,7 +218,10 @@ public final class ShelvesTest {
         due("BAD shelf", x.says(-1, 0), -2);
         due("BAD kind ahead of OTHER", x.says(1, 6), -2);
         due("BAD kind ahead of NOTHING", x.says(2, -1), -2);
-        due("a row", x.says(1, 0), -3);
+        for (int sort = 0; sort <= 4; sort++) {
+            x.row(1, sort, 1);
+            due("a row", x.says(1, 0), -3);
+        }
         due("NOTHING", x.says(2, 0), -4);
         due("nobody went", x.status(3), 8);
     }

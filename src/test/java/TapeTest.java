@@ -104,6 +104,14 @@ public final class TapeTest {
         fault("no 0 6", 5);
         fault("0", 0);
         fault("street 0 1", 0);
+        fault("say 0 1", 0);
+        fault("wax 0 1", 0);
+        fault("wayz 0 1", 0);
+        fault("waya 0 1", 0);
+        fault("way 0 1`", 7);
+        fault("way 0 1{", 7);
+        fault("way 0 1/", 7);
+        fault("way 0 1:", 7);
         fault("places 5", 7);
         fault("places 13", 7);
         fault("places 0007", 7);
@@ -133,7 +141,14 @@ public final class TapeTest {
         fault("person 0 0 0 0; at 1 0", 19);
         fault("person 0 0 0 0; at 0 6", 21);
         ShowsWhereNobodyIs x = new ShowsWhereNobodyIs();
-        due("a place made ahead", Check.read(x, "places 8; way 7 6; person 0 0 7 6; at 0 6"), 4);
+        due("a place made ahead", Check.read(x, "places 8; way 7 6; person 0 0 7 6; at 0 7"), 4);
+        due("AT", x.personOf(0, 4), 7);
+        due("the last place", Check.read(x, "at 0 0; person 5 9 7 7; at 1 7"), 3);
+        due("many statements", Check.read(x, "at0 1;at0 2;at0 3;at0 4;at0 5;at0 6;at0 7;at0 0;at0 1;"
+            + "at0 2;at0 3;at0 4;at0 5;at0 6;at0 7;at0 0;at0 1;at0 2;at0 3;at0 4;at0 5;at0 6;at0 7;at0 0;"
+            + "at0 1;at0 2;at0 3;at0 4;at0 5;at0 6;at0 7;at0 0;at0 1;at0 2;at0 3;at0 4;at0 5;at0 6;at0 7;"
+            + "at0 0;at0 6"), 41);
+        due("AT", x.personOf(0, 4), 6);
     }
 
     private static void allOrNothing() {

@@ -309,8 +309,12 @@ public final class HoursTest {
         due("now two are joined at 1, two at 3", v.without(1), 0);
         v.person(1, 0, 4, 4);
         due("but one", v.without(1), 4);
-        v.tell(0, 20);
-        due("by night all are alone", v.without(1), 0);
+        // by night to homes of their own: the first or the one at 0
+        due("homes", Check.townOf("way 0 1; way 2 3; person 1 0 5 5; person 0 0 0 1; at 1 1;"
+            + "person 0 0 2 3; at 2 3; person 1 0 2 2; hour 20").without(1), 0);
+        // by day to aims of their own: the first or the one who goes to 2
+        due("aims", Check.townOf("way 0 1; way 0 2; person 1 0 5 5; person 0 0 0 1;"
+            + "person 0 0 0 2; person 1 0 1 0; hour 8").without(1), 0);
     }
 
     private static void best() {

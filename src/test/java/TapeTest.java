@@ -144,10 +144,7 @@ public final class TapeTest {
         due("a place made ahead", Check.read(x, "places 8; way 7 6; person 0 0 7 6; at 0 7"), 4);
         due("AT", x.personOf(0, 4), 7);
         due("the last place", Check.read(x, "at 0 0; person 5 9 7 7; at 1 7"), 3);
-        due("many statements", Check.read(x, "at0 1;at0 2;at0 3;at0 4;at0 5;at0 6;at0 7;at0 0;at0 1;"
-            + "at0 2;at0 3;at0 4;at0 5;at0 6;at0 7;at0 0;at0 1;at0 2;at0 3;at0 4;at0 5;at0 6;at0 7;at0 0;"
-            + "at0 1;at0 2;at0 3;at0 4;at0 5;at0 6;at0 7;at0 0;at0 1;at0 2;at0 3;at0 4;at0 5;at0 6;at0 7;"
-            + "at0 0;at0 6"), 41);
+        due("many statements", Check.read(x, "at0 1;".repeat(40) + "at0 6"), 41);
         due("AT", x.personOf(0, 4), 6);
     }
 

@@ -46,10 +46,10 @@ public final class TownTest {
         due("isWay(0, 1)", x.isWay(0, 1), 1);
         due("isWay(1, 0)", x.isWay(1, 0), 1);
         due("no way", x.way(1, 0, false), 1);
-        due("no way again", x.way(0, 1, false), 0);
         due("isWay(0, 1)", x.isWay(0, 1), 0);
-        due("status(1)", x.status(1), 0);
         due("isWay(1, 0)", x.isWay(1, 0), 0);
+        due("status(1)", x.status(1), 0);
+        due("no way again", x.way(0, 1, false), 0);
         due("far(0, 1)", x.far(0, 1), -1);
         due("far(1, 0)", x.far(1, 0), -1);
         due("the same", x.way(2, 2, true), -2);

@@ -105,6 +105,9 @@ public final class WatchTest {
         ShowsWhereNobodyIs x = Check.townOf("way 0 5; way 1 5; way 2 5; person 1 0 0 0;"
             + "person 1 0 1 1; person 1 0 2 2; person 1 0 3 3; person 1 0 4 4; person 2 0 5 5");
         due("three and three are left", x.next(5), 1);
+        // a sitter in the walker's stead is told only if he is at 5: five of six are left
+        due("five of six are left", Check.townOf("person 1 0 0 0; person 1 0 1 1; person 1 0 2 2;"
+            + "person 1 0 3 3; person 1 0 4 4; person 1 0 5 5").next(5), 0);
         x.put(0, 0, 5);
         due("0 shines now but for one", x.next(1), 0);
         due("nothing is changed", x.personOf(5, 4), 5);

@@ -117,6 +117,9 @@ final class AheadPromises {
         s.sentence("OTHER;");
         s.refuses("a person", x -> call.on(x, 5, 0, 0), OTHER);
         s.refuses("a person, whatever n", x -> call.on(x, 5, 40, 0), OTHER);
+        s.town(ShelfPromises::firstShown);
+        s.refuses("the first person", x -> call.on(x, 5, 0, 0), OTHER);
+        s.refuses("the first person, whatever n", x -> call.on(x, 5, 1, 0), OTHER);
         s.sentence("NOTHING;");
         s.refuses("nothing", x -> call.on(x, 7, 0, 0), NOTHING);
         s.refuses("nothing, whatever n", x -> call.on(x, 7, 40, 0), NOTHING);

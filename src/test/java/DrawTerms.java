@@ -87,6 +87,9 @@ final class DrawTerms {
         dueAt(s, "the first of three", 1, 3, 1);
         dueAt(s, "the second of three", 18, 3, 2);
         dueAt(s, "the third of three", 0, 3, 5);
+        s.town("way 5 0; way 5 4; person 0 0 5 5");
+        dueAt(s, "the first of all places", 1, 3, 0);
+        dueAt(s, "the second of two", -1, 3, 4);
         s.town("places 12; way 0 1; way 0 2; way 0 3; way 0 4; way 0 5; way 0 6; way 0 7; way 0 8;"
             + "way 0 9; way 0 10; way 0 11; person 5 0 0 0");
         dueAt(s, "the first of eleven", 27, 3, 1);

@@ -171,6 +171,19 @@ final class HourPromises {
         s.asks("behind 48 each is alone", x -> x.without(48), 0);
         s.town("person 1 0 5 5");
         s.asks("the only one", x -> x.without(0), 0);
+        // 2 comes to 3 at 0 by his own HOME or AIM, so that without 1 or 4 one place more shines
+        s.town("way 0 1; person 3 0 5 5; person 1 0 4 4; person 0 0 0 1; at 2 1; person 1 0 0 0;"
+            + "person 1 0 3 3; hour 20");
+        s.asks("homes", x -> x.without(1), 1);
+        s.town("way 0 1; person 3 0 5 5; person 1 0 4 4; person 0 0 1 0; person 1 0 0 0;"
+            + "person 1 0 3 3; hour 8");
+        s.asks("aims", x -> x.without(1), 1);
+        s.town(x -> {
+            for (int i = 0; i < 8; i++) {
+                x.person(1, 0, i < 7 ? 0 : 5, 0);
+            }
+        });
+        s.asks("the last of eight", x -> x.without(48), 7);
         s.sentence("BAD;");
         s.edges("t", (x, v) -> x.without(v), 0, 48);
         s.town(x -> { });

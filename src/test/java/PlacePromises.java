@@ -40,6 +40,10 @@ final class PlacePromises {
             x.put(1, 0, 0);
             return x.middle();
         }, 0);
+        s.due("between two", x -> {
+            x.put(1, 0, 1);
+            return x.middle();
+        }, 1);
         s.town("way 3 4; way 4 5; person 1 0 3 3; person 1 0 5 5");
         s.asks("3, 4 and 5 are alike: the first", x -> x.middle(), 3);
         // from the line 12 and 3 times 12, from the other place 4 times 12: alike

@@ -254,13 +254,15 @@ final class Sentences {
                 seen.put(head + "status(" + what + ")", (long) x.status(what));
             }
         }
-        for (int person = 0; person < x.status(2); person++) {
+        int people = x.status(2);
+        for (int person = 0; person < people; person++) {
             for (int what = 0; what <= 5; what++) {
                 seen.put(head + "personOf(" + person + ", " + what + ")", (long) x.personOf(person, what));
             }
         }
-        for (int p = 0; p < x.status(0); p++) {
-            for (int q = p + 1; q < x.status(0); q++) {
+        int places = x.status(0);
+        for (int p = 0; p < places; p++) {
+            for (int q = p + 1; q < places; q++) {
                 seen.put(head + "isWay(" + p + ", " + q + ")", (long) x.isWay(p, q));
                 seen.put(head + "far(" + p + ", " + q + ")", (long) x.far(p, q));
             }

@@ -82,6 +82,8 @@ final class ShelfPromises {
         s.sentence("OTHER;");
         s.refuses("a person", x -> x.set(5, 0, 1), OTHER);
         s.refuses("a person, ahead of BAD i", x -> x.set(5, -1, 1), OTHER);
+        s.town(ShelfPromises::firstShown);
+        s.refuses("the first person", x -> x.set(5, 0, 1), OTHER);
         s.sentence("NOTHING;");
         s.refuses("nothing", x -> x.set(7, 0, 1), NOTHING);
         s.refuses("nothing, ahead of BAD i", x -> x.set(7, 40, 1), NOTHING);
@@ -95,6 +97,12 @@ final class ShelfPromises {
     private static void twoRows(ShowsWhereNobodyIs x) {
         Furnished.make(x);
         x.row(7, 2, 3);
+    }
+
+    /** Furnished, with the first of the people in shelf 5. */
+    static void firstShown(ShowsWhereNobodyIs x) {
+        Furnished.make(x);
+        x.show(5, 0);
     }
 
     private static void copy(Sentences s) {
@@ -130,9 +138,13 @@ final class ShelfPromises {
         s.refuses("a person in p", x -> x.copy(5, 2, 0, 0, 1), OTHER);
         s.refuses("a person in q", x -> x.copy(2, 5, 0, 0, 1), OTHER);
         s.refuses("a person in both", x -> x.copy(5, 5, 0, 0, 1), OTHER);
+        s.refuses("a person in both, none", x -> x.copy(5, 5, 0, 0, 0), OTHER);
         s.refuses("a person in p, ahead of NOTHING", x -> x.copy(5, 7, 0, 0, 1), OTHER);
         s.refuses("a person in q, ahead of NOTHING", x -> x.copy(7, 5, 0, 0, 1), OTHER);
         s.refuses("a person, ahead of BAD n", x -> x.copy(5, 2, 0, 0, -1), OTHER);
+        s.town(ShelfPromises::firstShown);
+        s.refuses("the first person in both, none", x -> x.copy(5, 5, 0, 0, 0), OTHER);
+        s.refuses("the first person, ahead of NOTHING", x -> x.copy(5, 7, 0, 0, 0), OTHER);
         s.refuses("bytes to shorts", x -> x.copy(0, 1, 0, 0, 1), OTHER);
         s.refuses("ints to longs, none", x -> x.copy(2, 3, 0, 0, 0), OTHER);
         s.refuses("booleans to bytes, ahead of BAD i", x -> x.copy(4, 0, -1, 0, 1), OTHER);

@@ -69,6 +69,9 @@ final class TruthPromises {
         s.sentence("OTHER;");
         s.refuses("a person", x -> x.judge(5, 0), Sentences.OTHER);
         s.refuses("a person, whatever n", x -> x.judge(5, 40), Sentences.OTHER);
+        s.town(ShelfPromises::firstShown);
+        s.refuses("the first person", x -> x.judge(5, 0), Sentences.OTHER);
+        s.refuses("the first person, whatever n", x -> x.judge(5, 1), Sentences.OTHER);
         s.sentence("NOTHING;");
         s.refuses("nothing", x -> x.judge(7, 0), Sentences.NOTHING);
         s.refuses("nothing, whatever n", x -> x.judge(7, 40), Sentences.NOTHING);
@@ -208,6 +211,15 @@ final class TruthPromises {
             x.back();
             x.person(0, 0, 0, 0);
             return x.holds(0);
+        }, NONE);
+        s.town(x -> {
+            x.image();
+            x.person(1, 0, 0, 0);
+            x.show(3, 0);
+        });
+        s.due("the first one isn't there", x -> {
+            x.back();
+            return x.holds(3);
         }, NONE);
         s.sentence("STUCK: nothing was.");
         s.town(x -> x.person(0, 0, 0, 0));

@@ -8,8 +8,8 @@ import java.util.List;
 import java.util.Map;
 
 /**
- * Goes through the document's Terms and promises in their order: each sentence is quoted, and what
- * is asked behind it are its own answers. In the end every word must have been quoted, and every
+ * Goes through the document from its first line to its last: each sentence is quoted, and what is
+ * asked behind it are its own answers. In the end every word must have been quoted, and every
  * quoted sentence must have had an answer.
  *
  * Every call is made on a fresh object, made ready by the town that was told last, and looked at
@@ -52,9 +52,16 @@ final class Sentences {
 
     // ---- the document ----
 
-    /** A part of the Terms, from its heading to the next one's. */
+    /** A part that is no promise, from its heading to the next one's (none: to the document's end). */
     void terms(String heading, String nextHeading) {
-        open(doc.indexOf(heading), doc.indexOf(nextHeading), heading.length());
+        int to = nextHeading.isEmpty() ? doc.length() : doc.indexOf(nextHeading);
+        open(doc.indexOf(heading), to, heading.length());
+    }
+
+    /** The line behind the words quoted last, as it stands there. */
+    String nextLine() {
+        int from = doc.indexOf("\n", position) + 1;
+        return doc.substring(from, doc.indexOf("\n", from)).trim();
     }
 
     void promise(int number) {
@@ -96,11 +103,10 @@ final class Sentences {
 
     void end() {
         closeSentence();
-        int from = doc.indexOf("## Terms") + "## Terms".length();
-        int to = doc.indexOf("## Not promised");
-        for (String line : doc.substring(from, to).split("\n", -1)) {
+        int from = 0;
+        for (String line : doc.split("\n", -1)) {
             List<String> left = unquoted(line, from);
-            if (!line.startsWith("```") && !left.isEmpty()) {
+            if (!line.startsWith("```") && !line.equals("## Terms") && !left.isEmpty()) {
                 check.fail("words that no test has quoted: " + left);
             }
             from += line.length() + 1;
@@ -152,6 +158,12 @@ final class Sentences {
     void due(String call, Call c, long want) {
         answers++;
         check.due(sentence + " | " + call, c.on(fresh()), want);
+    }
+
+    /** What can't be asked of an object by a call. */
+    void holds(String what, boolean is) {
+        answers++;
+        check.due(sentence + " | " + what, is ? 1 : 0, 1);
     }
 
     /** The answer, and that nothing changes and nothing is refused. */

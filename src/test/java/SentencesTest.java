@@ -1,9 +1,10 @@
 import java.io.IOException;
 
-/** Every sentence of the Terms and of the promises, in the document's order, at its boundaries. */
+/** Every sentence of the document, in its order, at its boundaries. */
 public final class SentencesTest {
     public static void main(String[] args) throws IOException {
         Sentences s = new Sentences();
+        Opening.go(s);
         TownTerms.go(s);
         HourTerms.go(s);
         AheadTerms.go(s);
@@ -14,6 +15,7 @@ public final class SentencesTest {
         HourPromises.go(s);
         PlacePromises.go(s);
         TruthPromises.go(s);
+        NotPromised.go(s);
         s.end();
     }
 }

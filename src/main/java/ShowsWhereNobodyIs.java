@@ -71,8 +71,8 @@ public final class ShowsWhereNobodyIs {
         for (int s = 0; s < SHELVES; s++) {
             shelves[s] = new Shelf();
         }
-        tape = new Tape();
-        reader = new TownReader(tape);
+        reader = new TownReader();
+        tape = reader.tape;
         hiddenWay = new HiddenWay();
         sights = new Sights();
         choice = new Choice();
@@ -1322,16 +1322,12 @@ public final class ShowsWhereNobodyIs {
         private static final int MOST_DIGITS = 3;
         private static final int MOST_TOLD_HOUR = 999;
 
+        final Tape tape = new Tape();
         int fault = NONE;
-        private final Tape tape;
         private int position;
         private int token;
         private int start;
         private int value;
-
-        TownReader(Tape tape) {
-            this.tape = tape;
-        }
 
         /** How many statements there are, unless there is a fault. */
         int readTown(Town draft) {
